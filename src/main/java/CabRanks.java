@@ -977,7 +977,6 @@ public final class CabRanks {
             server.due = minute + minutes;
             server.gain += city.priceOf(minutes, 0);
             server.wished = NONE;
-            server.byTicket = false;
         }
 
         /** Tells a PASS of a CAB that STANDS; of more than 40 the earliest is forgotten. */

@@ -8,6 +8,7 @@ public final class ImageTest {
         imageHoldsAll();
         imageLeavesTheRest();
         imageOfTicketRow();
+        imageOfPasses();
         counts();
         DUE.close();
     }
@@ -163,6 +164,32 @@ public final class ImageTest {
         DUE.is("0 came by TICKET", x.row(0, 0), 0);
         DUE.is("1 behind it", x.row(0, 1), 1);
         DUE.is("2 is passed", x.row(0, 2), 2);
+    }
+
+    private static void imageOfPasses() {
+        CabRanks x = standing(3);
+        x.refuse(0);
+        x.image(0);
+        x.go(4);
+        x.refuse(0);
+        x.image(1);
+        x.back(0);
+        x.go(9);
+        x.change(2, 0);
+        DUE.is("the second PASS", x.pass(1, 0), 9);
+        x.back(1);
+        DUE.is("two PASSES", x.pass(-1, 0), 2);
+        int[] want = {4, 1, 0, 3, 2};
+        for (int what = 0; what < 5; what++) {
+            DUE.is("the second PASS as it was " + what, x.pass(1, what), want[what]);
+        }
+        for (int k = 0; k < 50; k++) {
+            x.refuse(0);
+        }
+        x.back(0);
+        DUE.is("one PASS", x.pass(-1, 0), 1);
+        DUE.is("the first PASS as it was", x.pass(0, 0), 0);
+        DUE.is("no second one", x.pass(1, 0), -1);
     }
 
     private static void counts() {

@@ -5,6 +5,7 @@ public final class PeopleTest {
     public static void main(String[] args) {
         people();
         bringing();
+        bringingAll();
         bringingChoice();
         dead();
         lifting();
@@ -66,6 +67,16 @@ public final class PeopleTest {
         x.people(1, 4);
         DUE.is("the nearest four", x.brought(0), 4);
         DUE.is("the nearest four", x.brought(1), 150 + 99);
+    }
+
+    private static void bringingAll() {
+        for (int rank = 0; rank < 2; rank++) {
+            CabRanks x = Due.city("rank a 10 9 9;rank b 99 9 9;fare 0 0 1 0;");
+            stand(x, rank, 16);
+            x.people(1 - rank, 20);
+            DUE.is("sixteen over one stretch", x.brought(0), 16);
+            DUE.is("sixteen over one stretch", x.brought(1), 16 * 89);
+        }
     }
 
     private static void bringingChoice() {

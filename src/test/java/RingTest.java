@@ -1,3 +1,5 @@
+import java.util.Random;
+
 /** Promises 30 to 32: wish, rings, turn. */
 public final class RingTest {
     private static final Due DUE = new Due("RingTest");
@@ -8,6 +10,8 @@ public final class RingTest {
         twoCabs();
         leastBits();
         greatest();
+        longRing();
+        againstAllHeaps();
         placesInTurn();
         ticketsAfterTurn();
         DUE.close();
@@ -133,6 +137,52 @@ public final class RingTest {
         row(x, 0, 1, 4);
         row(x, 1, 0, 2);
         row(x, 2, 3);
+    }
+
+    private static void longRing() {
+        CabRanks x = Due.city("rank a 1 9 9;rank b 2 9 9;rank c 3 9 9;rank d 4 9 9;rank e 5 9 9;rank f 6 9 9;fare 0 0 1 0;");
+        int[] from = {4, 3, 2, 1, 0, 5};
+        for (int cab = 0; cab < 6; cab++) {
+            x.cab(0, 1 + from[cab]);
+            x.drive(cab, from[cab]);
+            DUE.is("no ring yet", x.rings(), 0);
+            DUE.is("wish", x.wish(cab, (from[cab] + 1) % 6), true);
+        }
+        DUE.is("one ring over all RANKS", x.rings(), 63);
+        DUE.is("turn", x.turn(), 6);
+        for (int cab = 0; cab < 6; cab++) {
+            row(x, (from[cab] + 1) % 6, cab);
+        }
+    }
+
+    /** Sixteen CABS with random WISHES, over two to six RANKS, against every heap of them. */
+    private static void againstAllHeaps() {
+        Random random = new Random(16);
+        for (int run = 0; run < 200; run++) {
+            CabRanks x = Due.city("rank a 1 9 9;rank b 2 9 9;rank c 3 9 9;rank d 4 9 9;rank e 5 9 9;rank f 6 9 9;fare 0 0 1 0;");
+            int ranks = 2 + run % 5;
+            int[] balances = new int[1 << 16];
+            int best = 0;
+            for (int cab = 0; cab < 16; cab++) {
+                int from = random.nextInt(ranks);
+                int to = (from + 1 + random.nextInt(ranks - 1)) % ranks;
+                x.cab(0, 1 + from);
+                x.drive(cab, from);
+                boolean wishes = random.nextInt(8) > 0 && x.wish(cab, to);
+                // a digit of 32 for each RANK: 0 in all if as many come as leave; 1 << 30 and its like are never 0
+                int step = wishes ? (1 << 5 * to) - (1 << 5 * from) : 1 << 30;
+                for (int heap = 1 << cab; heap < 2 << cab; heap++) {
+                    balances[heap] = balances[heap - (1 << cab)] >= 1 << 29 ? 1 << 30 : balances[heap - (1 << cab)] + step;
+                }
+            }
+            for (int heap = 1; heap < 1 << 16; heap++) {
+                if (balances[heap] == 0 && Integer.bitCount(heap) > Integer.bitCount(best)) {
+                    best = heap;
+                }
+            }
+            DUE.is("the greatest of random wishes " + run, x.rings(), best);
+            DUE.is("done " + run, x.turn(), Integer.bitCount(best));
+        }
     }
 
     private static void placesInTurn() {
