@@ -153,5 +153,15 @@ public final class PeopleTest {
         DUE.is("of like ones the least", y.toLift(0, 10), 1);
         CabRanks z = Due.city("rank a 40 9 9;fare 0 0 1 0;let a 3 0 23;");
         DUE.is("no CABS: none is needed", z.toLift(0, 0), 0);
+        StringBuilder eight = new StringBuilder("rank a 40 9 9;fare 0 0 1 0;");
+        for (int let = 0; let < 8; let++) {
+            eight.append("let a 3 ").append(let).append(" 23;");
+        }
+        CabRanks e = Due.city(eight.toString());
+        e.cab(0, 45);
+        DUE.is("all eight", e.toLift(12, 99), 255);
+        DUE.is("one too few of them", e.dead(12, 254), 100);
+        DUE.is("all eight", e.dead(12, 255), 5);
+        DUE.is("no ninth", e.dead(12, 256), -1);
     }
 }
