@@ -285,7 +285,7 @@ public final class CabRanks {
     }
 
     public int dead(int hour, int lifted) {
-        if (!within(hour, 0, HOURS - 1) || !within(lifted, 0, (1 << town.lets) - 1)) {
+        if (!hasCity() || !within(hour, 0, HOURS - 1) || !within(lifted, 0, (1 << town.lets) - 1)) {
             return NONE;
         }
         homes.prepare(town, hour);

@@ -615,8 +615,7 @@ final class Model {
     }
 
     int dead(int hour, int lifted) {
-        int lets = town == null ? 0 : town.lets.size();
-        if (hour < 0 || hour > 23 || lifted < 0 || lifted >= 1 << lets) {
+        if (town == null || hour < 0 || hour > 23 || lifted < 0 || lifted >= 1 << town.lets.size()) {
             return NONE;
         }
         int all = 0;

@@ -102,6 +102,15 @@ public final class PeopleTest {
     }
 
     private static void dead() {
+        CabRanks none = new CabRanks();
+        DUE.is("no CITY", none.dead(0, 0), -1);
+        DUE.is("no CITY, at 23", none.dead(23, 0), -1);
+        DUE.is("no CITY, a LET lifted", none.dead(0, 1), -1);
+        Due.text(none, "rank a 1 1 1;fare 0 0 1 0;");
+        DUE.is("a text is no CITY yet", none.dead(0, 0), -1);
+        CabRanks lawless = Due.city("rank a 1 1 1;fare 0 0 1 0;");
+        DUE.is("a CITY without LETS", lawless.dead(0, 0), 0);
+        DUE.is("none of them to lift", lawless.dead(0, 1), -1);
         CabRanks x = Due.city("rank a 10 9 9;rank b 30 1 0;fare 0 0 1 0;let a 1 6 9;let b 2 0 23;let b 1 7 7;");
         DUE.is("no CABS", x.dead(0, 0), 0);
         x.cab(1, 12);
