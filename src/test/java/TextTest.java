@@ -54,6 +54,7 @@ public final class TextTest {
         DUE.is("thumb", x.thumb(0, 0, 0, 0), -1);
         DUE.is("people", x.people(0, 0), false);
         DUE.is("brought", x.brought(0), -1);
+        DUE.is("dead", x.dead(0, 0), -1);
         DUE.is("toLift", x.toLift(0, 0), -1);
         DUE.is("reading", x.reading(0, 0, 0), -1);
         DUE.is("jumpers", x.jumpers(0, 0), -1);
