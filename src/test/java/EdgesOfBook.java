@@ -267,6 +267,10 @@ final class EdgesOfBook {
                         + " of(4, 9) -> NONE; of(6, 9) -> NONE; of(1, 9) -> 2;"
                         + "of(0, 1) -> 30; of(0, 2) -> 1; of(0, 3) -> 1; turn() -> 0; pass(NONE, 0) -> 1")
                 .answers(city.standing(1, 0, 10).then("wish(0, 1)"), "turn() -> 0; of(0, 2) -> 0; of(0, 9) -> 1")
+                // who came into its row by TICKET came into the other one by a ring
+                .answers(city.standing(1, 0, 10).standing(2, 1, 30).then("take(0, 2, 10); take(1, 2, 30); go(2)",
+                        "drive(0, 0); wish(0, 1); wish(2, 0)"), "turn() -> 2; row(0, 0) -> 2; row(1, 0) -> 0;"
+                        + "drive(1, 1) -> true; row(1, 0) -> 1; row(1, 1) -> 0")
                 // who takes the place of one who came by TICKET came by a ring
                 .answers(city.standing(3, 0, 10).standing(1, 1, 30).then("take(0, 2, 10); take(0, 2, 10); go(2);"
                         + " drive(0, 0); wish(0, 1); wish(3, 0)"), "turn() -> 2; row(0, 0) -> 3;"
