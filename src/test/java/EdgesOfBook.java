@@ -298,7 +298,8 @@ final class EdgesOfBook {
         String later = "cab(1, 1); go(9); take(0, 1, 1); change(2, 0); people(1, 0); people(2, 9); wish(0, NONE)";
         sentence("An IMAGE (0 .. 2) has MINUTE, CABS, rows, PASSES, PEOPLE and WISHES as they are then;"
                 + " gone back to, they are so again.")
-                .refuses(day.then("image(0); go(1); image(1)"), "image(-1) -> false; image(3) -> false;"
+                .refuses(day.then("image(0); go(1); image(1); go(1); image(2)"), "image(-1) -> false;"
+                        + " image(3) -> false;"
                         + " image(MIN) -> false; image(MAX) -> false")
                 .refuses(day.then("image(0); go(1)"), "back(-1) -> false; back(1) -> false; back(2) -> false;"
                         + " back(3) -> false; back(MIN) -> false; back(MAX) -> false");

@@ -294,7 +294,8 @@ final class EdgesOfMorePromises {
         promise(34, "false without a CITY, or if there is no such number.")
                 .refuses(none, "image(0) -> false; image(2) -> false; image(3) -> false")
                 .refuses(none.text(TEXT), "image(0) -> false; back(0) -> false")
-                .refuses(two.then("image(1)"), "image(-1) -> false; image(3) -> false; image(MIN) -> false;"
+                .refuses(two.then("image(0); go(1); image(1); go(1); image(2); go(1)"), "image(-1) -> false;"
+                        + " image(3) -> false; image(MIN) -> false;"
                         + " image(MAX) -> false");
         promise(35, "An IMAGE is gone back to: true;")
                 .answers(two.then("image(0); go(7); take(0, 9, 9)"), "back(0) -> true; count(3) -> 0; of(0, 0) -> 2;"

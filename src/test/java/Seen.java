@@ -8,7 +8,8 @@ import java.util.List;
 final class Seen {
     static final List<List<String>> QUESTIONS = List.of(rows(), cabs(), passes(0, 20), passes(20, 40), plates(),
             worths(), thumbs(), people(), book());
-    static final List<List<String>> FUTURES = List.of(images(0), images(1), images(2), day(), ring(), text(), newCity());
+    static final List<List<String>> FUTURES = List.of(images(0), images(1), images(2), day(), zones(),
+            tickets(0, 10, false), tickets(0, 10, true), tickets(1, 30, false), tickets(1, 30, true), ring(), text(), newCity());
 
     private Seen() {
     }
@@ -139,6 +140,35 @@ final class Seen {
         all.add("go(90)");
         all.addAll(rows());
         all.addAll(passes(0, 10));
+        return all;
+    }
+
+    /** Most become EMPTY at one place, where DEAD and the RANKS that let them in tell their ZONES. */
+    private static List<String> zones() {
+        List<String> all = new ArrayList<>();
+        for (int k = 0; k < 12; k++) {
+            all.add("take(" + k % 3 + ", 1, 40)");
+        }
+        all.addAll(Run.split("go(300); dead(0, 0); dead(1, 0); dead(12, 0); dead(23, 0)"));
+        for (int cab = 0; cab < 16; cab++) {
+            all.add("drive(" + cab + ", " + (1 + cab % 2) + ")");
+        }
+        all.add("go(60)");
+        all.addAll(rows());
+        return all;
+    }
+
+    /** One comes back by TICKET, behind those who came so; with a REFUSED one left behind it, too. */
+    private static List<String> tickets(int rank, int place, boolean refused) {
+        List<String> all = new ArrayList<>();
+        if (refused) {
+            all.add("refuse(" + rank + ")");
+        }
+        all.addAll(Run.split("take(" + rank + ", 1, " + place + "); go(1)"));
+        for (int cab = 0; cab < 16; cab++) {
+            all.add("drive(" + cab + ", " + rank + ")");
+        }
+        all.addAll(rows());
         return all;
     }
 
