@@ -131,7 +131,7 @@ final class Run {
             case "MAX": return Integer.MAX_VALUE;
             case "true": return 1;
             case "false": return 0;
-            default: return Integer.parseInt(word);
+            default: return word.startsWith("0x") ? Integer.parseUnsignedInt(word.substring(2), 16) : Integer.parseInt(word);
         }
     }
 
@@ -139,6 +139,10 @@ final class Run {
     static final class Played {
         private final CabRanks x = new CabRanks();
         private int asked = 0;
+
+        CabRanks object() {
+            return x;
+        }
 
         int ask(String call) {
             asked++;
